@@ -24,6 +24,8 @@ public final class ColdMiddle {
     private static final int MOST_PLATES = 4;
     private static final int MOST_DEGREES_SET = 99;
     private static final int LAST_TEN = 9999;
+    /** More than anything that is compared with it. */
+    private static final int FAR = 1000000000;
 
     private static final int WIDTH = 0;
     private static final int HEIGHT = 1;
@@ -143,7 +145,7 @@ public final class ColdMiddle {
     }
 
     private boolean isCell(int cell) {
-        return cell >= 0 && cell < plate.cells;
+        return cell >= 0 && cell < plate.cells && cell < MOST_CELLS;
     }
 
     private boolean isPower(int power) {
@@ -172,7 +174,7 @@ public final class ColdMiddle {
         }
         switch (what) {
             case 0:
-                return kitchen.lunch.share[cell];
+                return kitchen.lunch.shareOf(cell);
             case 1:
                 return plate.thick[cell];
             case 2:
@@ -190,7 +192,7 @@ public final class ColdMiddle {
 
     public int dish(int dish, int what) {
         Lunch lunch = kitchen.lunch;
-        if (!hasLunch() || dish < 0 || dish >= lunch.dishes || !isWithin(what, 0, 1)) {
+        if (!hasLunch() || !lunch.hasDish(dish) || !isWithin(what, 0, 1)) {
             return NONE;
         }
         return what == 0 ? lunch.tens[dish] : lunch.minds[dish];
@@ -527,7 +529,7 @@ public final class ColdMiddle {
             return NONE;
         }
         int bits = 0;
-        for (int cell = 0; cell < plate.cells; cell++) {
+        for (int cell = 0; cell < MOST_CELLS; cell++) {
             if (plate.ice[cell] > 0) {
                 bits |= 1 << cell;
             }
@@ -700,9 +702,17 @@ public final class ColdMiddle {
             return index >= 0 && index < beside.length ? beside[index] : NONE;
         }
 
+        int shareOf(int cell) {
+            return cell >= 0 && cell < share.length ? share[cell] : 0;
+        }
+
+        boolean hasDish(int dish) {
+            return dish >= 0 && dish < dishes && dish < MOST_DISHES;
+        }
+
         void findOrder() {
             bestOrder = NONE;
-            bestMinded = Integer.MAX_VALUE;
+            bestMinded = FAR;
             tryOrders(this, 0, 0, 0, 0, 0);
         }
 
@@ -1188,7 +1198,7 @@ public final class ColdMiddle {
 
         int foods() {
             int sum = 0;
-            for (int cell = 0; cell < cells; cell++) {
+            for (int cell = 0; cell < MOST_CELLS; cell++) {
                 sum += thick[cell] > 0 ? 1 : 0;
             }
             return sum;
@@ -1196,7 +1206,7 @@ public final class ColdMiddle {
 
         int burstOnes() {
             int sum = 0;
-            for (int cell = 0; cell < cells; cell++) {
+            for (int cell = 0; cell < MOST_CELLS; cell++) {
                 sum += burst[cell];
             }
             return sum;
@@ -1204,7 +1214,7 @@ public final class ColdMiddle {
 
         int iceOfAll() {
             int sum = 0;
-            for (int cell = 0; cell < cells; cell++) {
+            for (int cell = 0; cell < MOST_CELLS; cell++) {
                 sum += ice[cell];
             }
             return sum;
@@ -1212,7 +1222,7 @@ public final class ColdMiddle {
 
         int meanDegrees() {
             int sum = 0;
-            for (int cell = 0; cell < cells; cell++) {
+            for (int cell = 0; cell < MOST_CELLS; cell++) {
                 sum += degrees[cell];
             }
             int foods = foods();
@@ -1223,7 +1233,7 @@ public final class ColdMiddle {
             int foods = foods();
             int meanIce = foods == 0 ? 0 : iceOfAll() / foods;
             int meanDegrees = meanDegrees();
-            for (int cell = 0; cell < cells; cell++) {
+            for (int cell = 0; cell < MOST_CELLS; cell++) {
                 if (thick[cell] > 0) {
                     ice[cell] = meanIce;
                     degrees[cell] = meanDegrees;
@@ -1232,8 +1242,8 @@ public final class ColdMiddle {
         }
 
         int leastDegrees() {
-            int least = Integer.MAX_VALUE;
-            for (int cell = 0; cell < cells; cell++) {
+            int least = FAR;
+            for (int cell = 0; cell < MOST_CELLS; cell++) {
                 if (thick[cell] > 0) {
                     least = Math.min(least, degrees[cell]);
                 }
@@ -1242,8 +1252,8 @@ public final class ColdMiddle {
         }
 
         int leastLessIce() {
-            int least = Integer.MAX_VALUE;
-            for (int cell = 0; cell < cells; cell++) {
+            int least = FAR;
+            for (int cell = 0; cell < MOST_CELLS; cell++) {
                 if (thick[cell] > 0) {
                     least = Math.min(least, degrees[cell] - ice[cell]);
                 }
@@ -1254,7 +1264,7 @@ public final class ColdMiddle {
         /** How many DEGREES the warmest has more than the coldest. */
         int apart() {
             int most = 0;
-            for (int cell = 0; cell < cells; cell++) {
+            for (int cell = 0; cell < MOST_CELLS; cell++) {
                 if (thick[cell] > 0) {
                     most = Math.max(most, degrees[cell]);
                 }
@@ -1265,9 +1275,12 @@ public final class ColdMiddle {
 
     /** The oven at work: what a TEN does to a plate, by the LUNCH and the LAW that holds. */
     private static final class Kitchen {
+        private static final int MOST_GAIN = 99;
+
         Lunch lunch = new Lunch();
         /** null: none holds. */
         Law law;
+        /** What the letters of a LAW stand for, in the order of Law.LETTERS. */
         private final int[] letters = new int[6];
         private final int[] flow = new int[MOST_CELLS];
 
@@ -1282,7 +1295,7 @@ public final class ColdMiddle {
         }
 
         boolean isSafe(Plate plate) {
-            for (int cell = 0; cell < plate.cells; cell++) {
+            for (int cell = 0; cell < plate.cells && cell < MOST_CELLS; cell++) {
                 if (plate.thick[cell] > 0 && (plate.ice[cell] > 0 || plate.degrees[cell] < lunch.oven[SAFE])) {
                     return false;
                 }
@@ -1304,9 +1317,16 @@ public final class ColdMiddle {
         /** What FOOD gets hangs on no other FOOD's DEGREES or ICE, so each can take it at once. */
         private void warm(Plate plate, int power) {
             boolean isOpposite = plate.turns && (plate.ten & 1) == 1;
-            for (int cell = 0; cell < plate.cells; cell++) {
+            for (int cell = 0; cell < plate.cells && cell < MOST_CELLS; cell++) {
                 if (plate.thick[cell] > 0) {
-                    int gain = gain(plate, cell, power, lunch.share[isOpposite ? plate.cells - 1 - cell : cell]);
+                    letters[0] = power;
+                    letters[1] = lunch.shareOf(isOpposite ? plate.cells - 1 - cell : cell);
+                    letters[2] = plate.thick[cell];
+                    letters[3] = plate.ice[cell];
+                    letters[4] = plate.degrees[cell];
+                    letters[5] = edges(plate, cell);
+                    int worth = law == null ? usualWorth() : law.worth(letters);
+                    int gain = Math.max(0, Math.min(MOST_GAIN, worth));
                     if (plate.ice[cell] > 0) {
                         plate.ice[cell] = Math.max(0, plate.ice[cell] - gain / 2);
                     } else {
@@ -1316,27 +1336,16 @@ public final class ColdMiddle {
             }
         }
 
-        private int gain(Plate plate, int cell, int power, int share) {
-            int edges = edges(plate, cell);
-            int worth = power * share / 10 + edges - plate.thick[cell] / 4;
-            if (law != null) {
-                letters[0] = power;
-                letters[1] = share;
-                letters[2] = plate.thick[cell];
-                letters[3] = plate.ice[cell];
-                letters[4] = plate.degrees[cell];
-                letters[5] = edges;
-                worth = law.worth(letters);
-            }
-            return Math.max(0, Math.min(99, worth));
+        private int usualWorth() {
+            return letters[0] * letters[1] / 10 + letters[5] - letters[2] / 4;
         }
 
         /** All FOOD at once: what flows to each is known of all before one takes it. */
         private void spreadOut(Plate plate) {
-            for (int cell = 0; cell < plate.cells; cell++) {
+            for (int cell = 0; cell < plate.cells && cell < MOST_CELLS; cell++) {
                 flow[cell] = plate.thick[cell] > 0 ? flowTo(plate, cell) : 0;
             }
-            for (int cell = 0; cell < plate.cells; cell++) {
+            for (int cell = 0; cell < plate.cells && cell < MOST_CELLS; cell++) {
                 if (plate.ice[cell] > 0) {
                     plate.ice[cell] = Math.max(0, plate.ice[cell] - Math.max(0, flow[cell]));
                 } else {
@@ -1358,7 +1367,7 @@ public final class ColdMiddle {
 
         private int burst(Plate plate) {
             int sum = 0;
-            for (int cell = 0; cell < plate.cells; cell++) {
+            for (int cell = 0; cell < plate.cells && cell < MOST_CELLS; cell++) {
                 if (plate.thick[cell] > 0 && plate.degrees[cell] >= lunch.oven[BURSTS]) {
                     plate.burst[cell] = 1;
                     plate.degrees[cell] = lunch.oven[BURSTS] - 10;
@@ -1374,7 +1383,7 @@ public final class ColdMiddle {
             int before = 0;
             for (int i = 0; i < MOST_CELLS && bits != before; i++) {
                 before = bits;
-                for (int other = 0; other < plate.cells; other++) {
+                for (int other = 0; other < plate.cells && other < MOST_CELLS; other++) {
                     if (plate.hasFood(other) && isBeside(other, bits)) {
                         bits |= 1 << other;
                     }
@@ -1540,7 +1549,7 @@ public final class ColdMiddle {
         int whereToLook(int cellsInAll, int k) {
             int all = weakCells(cellsInAll, k, NONE);
             int found = NONE;
-            int least = Integer.MAX_VALUE;
+            int least = FAR;
             for (int cell = 0; all > 0 && cell < cellsInAll && cell < MOST_CELLS; cell++) {
                 int apart = Math.abs(all - 2 * inSets[cell]);
                 if (apart < least) {
@@ -1642,8 +1651,8 @@ public final class ColdMiddle {
         int bestPlace(Plate now, int cell, int n) {
             Plate from = plateAt(0);
             int found = NONE;
-            int most = Integer.MIN_VALUE;
-            for (int other = 0; other < now.cells; other++) {
+            int most = -FAR;
+            for (int other = 0; other < now.cells && other < MOST_CELLS; other++) {
                 if (other == cell || !now.hasFood(other)) {
                     from.become(now);
                     from.shift(cell, other);

@@ -136,6 +136,15 @@ public final class PromisesTest {
         due("feed of two too many by one", y.feed(0x6666, 0, 0, 0, 0), NONE);
         due("count(4)", y.count(4), 239);
         due("feed of the last", y.feed(0, 0, 0, 0, 7), 240);
+        // Bytes of each of the five numbers count.
+        for (int k = 0; k < 5; k++) {
+            y.end(239);
+            int[] five = new int[5];
+            five[k] = 0x01000001;
+            due("feed of two by number " + k, y.feed(five[0], five[1], five[2], five[3], five[4]), NONE);
+            y.end(238);
+            due("feed of two by number " + k, y.feed(five[0], five[1], five[2], five[3], five[4]), 240);
+        }
         ColdMiddle z = new ColdMiddle();
         z.feed(0x66633174, 0x32693364, 0x343b7377, 0x35683570, 0x3673313b);
         due("feed, its order", z.fault(0), 20);
@@ -194,6 +203,8 @@ public final class PromisesTest {
         dueLunch("f;sw5h5p9s9b99a90", NONE);
         dueLunch("f;sh0", 4);
         dueLunch("f;sh6", 4);
+        dueLunch("f;sw0", 4);
+        dueLunch("f;sw6", 4);
         dueLunch("f;sw10", 5);
         dueLunch("f;sp10", 5);
         dueLunch("f;ss10", 5);
@@ -500,11 +511,17 @@ public final class PromisesTest {
         due("cook(61,0)", last.cook(61, 0), NONE);
         due("status(1)", last.status(1), 1);
         due("habits(40,1)", last.habits(40, 1), NONE);
-        due("cook(39,0)", last.cook(39, 0), 9999);
+        due("habits(39,1)", last.habits(39, 1), 9999);
+        last.undo();
+        due("cook(1,0)", last.cook(1, 0), 9999);
+        due("undo()", last.undo(), 39);
+        due("cook(2,0)", last.cook(2, 0), NONE);
+        due("cook(1,0)", last.cook(1, 0), 9999);
         due("cook(1,0)", last.cook(1, 0), NONE);
         due("habits(1,1)", last.habits(1, 1), NONE);
-        due("status(3)", last.status(3), 2);
-        due("heats(0,2,4) behind it", last.heats(0, 2, 4), 26);
+        due("status(3)", last.status(3), 3);
+        due("heats(0,0,4)", last.heats(0, 0, 4), spot(last, 0, 3));
+        due("heats(0,1,4) behind it", last.heats(0, 1, 4), last.next(0, 4));
         due("log(59,0)", last.log(59, 0), 0);
         due("log(60,0)", last.log(60, 0), NONE);
     }
