@@ -21,6 +21,7 @@ public final class BoundsTenTest {
         lastFood();
         fortyActs();
         eachIsOneAct();
+        fortyBehindAny();
         sixtyInTheLog();
         logOfATen();
         statusOfSeveral();
@@ -636,6 +637,48 @@ public final class BoundsTenTest {
         Due.due("count(13)", x.count(13), 1);
         Due.due("count(14)", x.count(14), 1);
         Due.due("back()", x.back(), 0);
+    }
+
+    private static void fortyBehindAny() {
+        Due.sentence("ACTS: the latest 40 can be UNDONE one by one, however many were done and UNDONE ahead of them");
+        for (int done = 0; done <= 85; done++) {
+            ColdMiddle x = Due.lunch("sw1h1p9;f");
+            for (int i = 1; i <= done; i++) {
+                x.cook(1, i % 10);
+            }
+            int kept = Math.min(40, done);
+            int some = kept / 3;
+            for (int i = 1; i <= some; i++) {
+                Due.due("undo() of " + done, x.undo(), kept - i);
+            }
+            for (int i = 0; i < 7; i++) {
+                x.turn(i % 2 == 0);
+            }
+            int now = Math.min(40, kept - some + 7);
+            Due.due("count(16) behind seven more", x.count(16), now);
+            for (int left = now - 1; left >= 0; left--) {
+                Due.due("undo()", x.undo(), left);
+            }
+            int ten = done - some - (now - 7);
+            Due.due("undo() of none", x.undo(), NONE);
+            Due.due("count(6)", x.count(6), ten);
+            Due.due("count(7)", x.count(7), 0);
+            Due.due("count(15)", x.count(15), Math.min(60, ten));
+            Due.due("log(0,0)", x.log(0, 0), ten == 0 ? NONE : ten % 10);
+            int last = Math.min(60, ten) - 1;
+            Due.due("log(last,0)", x.log(last, 0), ten == 0 ? NONE : (ten - last) % 10);
+        }
+        Due.sentence("An object is used for at most 512 calls: the last answers as the first");
+        ColdMiddle x = Due.lunch("f");
+        for (int i = 3; i < 512; i++) {
+            Due.due("turn, the call " + i, x.turn(i % 2 == 1), true);
+        }
+        Due.due("undo(), the 512th", x.undo(), 39);
+        ColdMiddle texts = new ColdMiddle();
+        for (int i = 0; i < 256; i++) {
+            texts.feed(0x66000000 + (0x633000 + (i % 10 << 8)), 0, 0, 0, 0);
+            Due.due("text(0), the call " + (2 * i + 2), texts.text(0), 1);
+        }
     }
 
     private static String all(ColdMiddle x) {

